@@ -633,6 +633,16 @@ public final class TiedFrame {
         private final int[] ways = new int[COLOURS];
         private final int[] freshWays = new int[COLOURS];
         private final int[][] rest = new int[MOST_PLACES + 1][MOST_BITS];
+        private final int[][] starts = new int[MOST_BITS][MOST_BITS];
+
+        /** Counts beforehand the ties that start where a fresh set follows another one: the dearest loop asks it. */
+        Planner() {
+            for (int fresh = 0; fresh < MOST_BITS; fresh++) {
+                for (int ahead = 0; ahead < MOST_BITS; ahead++) {
+                    starts[fresh][ahead] = Integer.bitCount(fresh & ~ahead);
+                }
+            }
+        }
 
         /** Takes the colour that each place must come to; false: some place is to have two colours at once. */
         boolean aimAt(Cloth cloth, Picture picture) {
@@ -757,8 +767,13 @@ public final class TiedFrame {
             }
             for (int fresh : FRESH_SETS) {
                 if ((allowed >> fresh & 1) != 0) {
+                    int[] starting = starts[fresh];
+                    int later = next[fresh];
                     for (int ahead : FRESH_SETS) {
-                        here[ahead] = Math.min(here[ahead], Integer.bitCount(fresh & ~ahead) + next[fresh]);
+                        int ties = starting[ahead] + later;
+                        if (ties < here[ahead]) {
+                            here[ahead] = ties;
+                        }
                     }
                 }
             }
@@ -792,7 +807,7 @@ public final class TiedFrame {
         private boolean keepsFewest(int place, int ahead, int allowed, int bits) {
             int fresh = freshOf(bits);
             return (allowed >> bits & 1) != 0
-                && Integer.bitCount(fresh & ~ahead) + rest[place + 1][fresh] == rest[place][ahead];
+                && starts[fresh][ahead] + rest[place + 1][fresh] == rest[place][ahead];
         }
     }
 

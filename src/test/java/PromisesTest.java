@@ -26,6 +26,7 @@ public final class PromisesTest {
         planStays();
         best();
         bestOrder();
+        planWide();
         kept();
         bits();
         dye();
@@ -145,7 +146,8 @@ public final class PromisesTest {
         x.fold(6, true);
         x.tie(6, 0, 0);
         x.bath(0);
-        x.slip(1, -1, 1);
+        x.slip(0, -1, 1);
+        x.slip(2, 1, 3);
         wantAll(x, 0, 9, 9, 9, 9);
         wantAll(x, 1, 9, 9, 9, 9);
         wantAll(x, 2, 9, 9, 9, 9);
@@ -166,8 +168,8 @@ public final class PromisesTest {
         Check.due("2 baths stay", 1, () -> x.count(2));
         x.tie(0, 1, 3);
         x.bath(0);
-        Check.due("2 thread 1 no longer slips", 1 << 9, () -> x.seen(1, 1));
-        Check.due("2 thread 0 neither", 1, () -> x.seen(0, 1));
+        Check.due("2 thread 0 no longer slips", 1, () -> x.seen(0, 1));
+        Check.due("2 thread 2 neither", 1 << 9, () -> x.seen(2, 0));
     }
 
     private static void into() {
@@ -541,6 +543,35 @@ public final class PromisesTest {
         Check.due("14 ties", 1, () -> z.best(2));
         Check.due("14 ties, row", 1 + 2 * 8, () -> z.kept(0));
         Check.due("14 ties, bits", "0 2", () -> bitsOf(z, 0));
+        // A later row of as many baths: dye 1 first, so that 1 and 0 are bound anew in the same bath.
+        TiedFrame later = framed(1, 7);
+        wantAll(later, 0, 3, 1, 0, 1, 0, 1, 3);
+        Check.due("14 an earlier row", 5, () -> later.plan(1 + 2 * 8));
+        Check.due("14 a later row", 1, () -> later.best(2));
+        Check.due("14 a later row, row", 2 + 1 * 8, () -> later.kept(0));
+        Check.due("14 a later row, bits", "0 1 3 1 3 1 0", () -> bitsOf(later, 0));
+    }
+
+    private static void planWide() {
+        TiedFrame x = framed(16, 24);
+        for (int thread = 0; thread < 16; thread++) {
+            x.into(thread, thread % 8);
+        }
+        for (int thread = 0; thread < 16; thread++) {
+            for (int place = 0; place < 24; place += 2) {
+                x.want(thread, place, 1);
+            }
+        }
+        Check.due("13 wide", 8 * 12, () -> x.plan(1));
+        Check.due("13 wide, bits", 1, () -> x.bits(7, 23));
+        // Of two baths of one dye all places are bound in the first, half of them stay so: one tie a bundle.
+        Check.due("14 wide", 8, () -> x.best(4));
+        Check.due("14 wide, row", 1 + 8, () -> x.kept(0));
+        x.frame(16, 24);
+        Check.due("13 wide, undyed", 1, () -> x.plan(4));
+        x.fold(0, true);
+        x.want(0, 0, 8);
+        Check.due("13 wide, one thread wants another", -1, () -> x.plan(4));
     }
 
     private static void kept() {

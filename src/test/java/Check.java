@@ -17,6 +17,14 @@ final class Check {
         }
     }
 
+    /** A call without an answer, as one that answers "nothing". */
+    static Callable<?> run(Runnable call) {
+        return () -> {
+            call.run();
+            return "nothing";
+        };
+    }
+
     static boolean due(String what, Object want, Callable<?> call) {
         return same(what, String.valueOf(want), answer(call));
     }

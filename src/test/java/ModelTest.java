@@ -73,19 +73,12 @@ public final class ModelTest {
         return answer;
     }
 
-    private static Callable<?> run(Runnable call) {
-        return () -> {
-            call.run();
-            return "nothing";
-        };
-    }
-
     private static String text(String name, int... args) {
         return name + Arrays.toString(args);
     }
 
     private void setFrame(int t, int p) {
-        if (ask(text("frame", t, p), run(() -> frame.frame(t, p)), run(() -> model.frame(t, p))).equals("nothing")) {
+        if (ask(text("frame", t, p), Check.run(() -> frame.frame(t, p)), Check.run(() -> model.frame(t, p))).equals("nothing")) {
             threads = t;
             places = p;
         }
@@ -135,7 +128,7 @@ public final class ModelTest {
                 ask(text(name, a, b, c), () -> frame.law(a, b, c), () -> model.law(a, b, c));
                 break;
             default:
-                ask(text(name, a, b, c), run(() -> frame.slip(a, b, c)), run(() -> model.slip(a, b, c)));
+                ask(text(name, a, b, c), Check.run(() -> frame.slip(a, b, c)), Check.run(() -> model.slip(a, b, c)));
                 break;
         }
     }

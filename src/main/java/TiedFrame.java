@@ -12,7 +12,6 @@ public final class TiedFrame {
     private static final int MOST_STRENGTH = 1000000;
     private static final int MOST_BATHS = 4;
     private static final int MOST_BITS = 1 << MOST_BATHS;
-    private static final int MOST_ROW = (1 << (3 * MOST_BATHS)) - 1;
     private static final int MOST_SLIP = 3;
     private static final int MOST_LAWS = 60;
     private static final int LAST_DAY = 9999;
@@ -306,9 +305,6 @@ public final class TiedFrame {
     }
 
     private static boolean isRow(int row) {
-        if (row < 0 || row > MOST_ROW) {
-            return false;
-        }
         int baths = bathsOf(row);
         for (int bath = 0; bath < baths; bath++) {
             int dye = dyeOf(row, bath);
@@ -316,6 +312,7 @@ public final class TiedFrame {
                 return false;
             }
         }
+        // Nothing may stand behind the last bath: this refuses gaps, a fifth bath and what is below 0.
         return row >> (3 * baths) == 0;
     }
 

@@ -340,6 +340,7 @@ public final class EdgesTest {
                 Check.due(by + ": not folded " + b, false, () -> x.fold(b, true));
             }
         }
+        frameUndoesEach();
         // What lay beyond a smaller frame isn't there when it grows again.
         TiedFrame y = Probe.framed(16, 24);
         y.vat(0, 384);
@@ -353,6 +354,37 @@ public final class EdgesTest {
         Check.due("grown: nobody slips", 1, () -> y.seen(15, 0));
         Check.due("grown: nothing wanted", 0, () -> y.want(15, 23, 0));
         Check.due("grown: in bundle 0", 0, () -> y.into(15, 0));
+    }
+
+    /** Each thread, bundle and place, from the first to the last, was set to something else. */
+    private static void frameUndoesEach() {
+        TiedFrame x = Probe.framed(16, 2);
+        for (int thread = 0; thread < 16; thread++) {
+            x.into(thread, 7 - thread / 4);
+            x.slip(thread, 1, 1);
+            Probe.wantAll(x, thread, 15, 14);
+        }
+        for (int bundle = 0; bundle < 8; bundle++) {
+            x.fold(bundle, true);
+        }
+        x.frame(16, 2);
+        x.vat(0, 16);
+        x.tie(0, 0, 0);
+        x.bath(0);
+        for (int thread = 0; thread < 16; thread++) {
+            int t = thread;
+            Check.due("frame: doesn't slip " + t, "1 2", () -> x.seen(t, 0) + " " + x.seen(t, 1));
+            Check.due("frame: wanted " + t, "0 0", () -> x.want(t, 0, 0) + " " + x.want(t, 1, 0));
+        }
+        for (int bundle = 0; bundle < 8; bundle++) {
+            int b = bundle;
+            Check.due("frame: threads of " + b, b == 0 ? 16 : 0, () -> x.count(8 + b));
+            Check.due("frame: unfolded " + b, false, () -> x.fold(b, false));
+        }
+        for (int thread = 0; thread < 16; thread++) {
+            int t = thread;
+            Check.due("frame: in bundle 0 " + t, 0, () -> x.into(t, 0));
+        }
     }
 
     /** "WANTED is a COLOUR for each THREAD and PLACE (0 at first)." */
@@ -519,6 +551,13 @@ public final class EdgesTest {
         Check.due("no such colour", 0, () -> y.rank(0));
         Check.due("one place", 1, () -> y.bath(0));
         Check.due("one place of one thread", 9, () -> y.rank(0));
+        TiedFrame dyed = Probe.framed(1, 2);
+        dyed.law(0, 0, 9);
+        dyed.tie(7, 0, 1);
+        Check.due("undyed", 9, () -> dyed.rank(0));
+        dyed.vat(3, 2);
+        dyed.bath(3);
+        Check.due("nothing undyed on threads, though in other bundles", 0, () -> dyed.rank(0));
         TiedFrame z = Probe.framed(2, 2);
         z.law(0, 1, 9);
         z.tie(0, 0, 1);

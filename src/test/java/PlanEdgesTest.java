@@ -19,6 +19,7 @@ public final class PlanEdgesTest {
         bestOfNone();
         bestOrder();
         bestOfMore();
+        bestOfEachRow();
         whatIsKept();
         keptThrough();
         dropped();
@@ -333,6 +334,40 @@ public final class PlanEdgesTest {
         Check.due("four at most, still two", 2, () -> x.kept(1));
         Check.due("one again", 2, () -> x.best(1));
         Check.due("one again is kept", 1, () -> x.kept(0));
+    }
+
+    /** "of all ROWS of at most a told number of BATHS": each of the 341 is the best for some table. */
+    private static void bestOfEachRow() {
+        int rows = 0;
+        for (int baths = 0; baths <= 4; baths++) {
+            for (int turn = 0; turn < 1 << (2 * baths); turn++) {
+                rows++;
+                bestIs(baths, turn);
+            }
+        }
+        Check.same("rows", "341", String.valueOf(rows));
+    }
+
+    /** Colours 0 to 4 are a stair that only the row's own dyes climb; all others fall off it to 15. */
+    private static void bestIs(int baths, int turn) {
+        TiedFrame x = Probe.framed(1, 2);
+        int row = 0;
+        for (int bath = 0; bath < baths; bath++) {
+            int right = turn >> (2 * bath) & 3;
+            row |= (right + 1) << (3 * bath);
+            for (int dye = 0; dye < 4; dye++) {
+                x.table(bath, dye, dye == right ? bath + 1 : 15);
+            }
+        }
+        Probe.wantAll(x, 0, baths, baths);
+        int due = row;
+        if (baths > 0) {
+            Check.due("too few for row " + row, -1, () -> x.best(baths - 1));
+        }
+        Check.due("just as many, row " + row, 0, () -> x.best(baths));
+        Check.due("the best is " + row, due, () -> x.kept(0));
+        Check.due("four at most, row " + row, 0, () -> x.best(4));
+        Check.due("the best of four is " + row, due, () -> x.kept(0));
     }
 
     /** "the ROW (what 0), how many BATHS (1), TIES (2). NONE: there is no PLAN", for rows of none to four. */

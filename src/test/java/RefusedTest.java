@@ -216,22 +216,21 @@ public final class RefusedTest {
             test.each("plan for too few or other dyes", "-1", new int[] {0, 1, 2, 1 + 8, 3 + 4 * 8, 4 + 4 * 8 + 4 * 64 + 4 * 512}, TiedFrame::plan);
             test.each("best of too few baths", "-1", new int[] {0, 1}, TiedFrame::best);
         }
-        RefusedTest unlike = new RefusedTest("threads of a bundle part", () -> {
+        noneMakes("threads of a bundle part", new int[][] {{2, 0}, {2, 4}});
+        noneMakes("what lies on one another parts", new int[][] {{1, 4}, {2, 4}});
+    }
+
+    /** Colour 3 is wanted at some places, so that no row can make the picture. */
+    private static void noneMakes(String why, int[][] where) {
+        RefusedTest test = new RefusedTest(why, () -> {
             TiedFrame x = busy(9, 11, false);
-            x.want(2, 0, 3);
-            x.want(2, 4, 3);
+            for (int[] at : where) {
+                x.want(at[0], at[1], 3);
+            }
             return x;
         });
-        unlike.refused("plan", "-1", x -> x.plan(ROW));
-        unlike.refused("best", "-1", x -> x.best(4));
-        RefusedTest fold = new RefusedTest("what lies on one another parts", () -> {
-            TiedFrame x = busy(9, 11, false);
-            x.want(1, 4, 3);
-            x.want(2, 4, 3);
-            return x;
-        });
-        fold.refused("plan", "-1", x -> x.plan(ROW));
-        fold.refused("best", "-1", x -> x.best(4));
+        test.refused("plan", "-1", x -> x.plan(ROW));
+        test.refused("best", "-1", x -> x.best(4));
     }
 
     /** A vat that is full, or nearly. */

@@ -615,10 +615,12 @@ public final class TiedFrame {
      * Finds THE PLAN for a row, and the best row. A tie is counted where a place is FRESHLY bound in a bath (bound,
      * and not in the bath ahead) and the place ahead of it is not, so the cost of a place hangs on nothing but its
      * fresh baths and those of the place ahead: the fewest ties are found from the last place back to the first.
+     * A place has at most two fresh baths of four (never two in succession), so what lies ahead of it makes at most
+     * two ties of difference: the fewest, and which sets of fresh baths ahead (a bit for each) keep to them or to
+     * one more, tell all.
      */
     private static final class Planner {
-        /** The sets of baths in which one place can be freshly bound: never two baths in succession. */
-        private static final int[] FRESH_SETS = {0, 1, 2, 4, 5, 8, 9, 10};
+        private static final int ALL_SETS = (1 << MOST_BITS) - 1;
         private static final int FAR = 1000000;
 
         private final int[] span = new int[BUNDLES];
@@ -629,17 +631,9 @@ public final class TiedFrame {
         private final int[] outcome = new int[MOST_BITS];
         private final int[] ways = new int[COLOURS];
         private final int[] freshWays = new int[COLOURS];
-        private final int[][] rest = new int[MOST_PLACES + 1][MOST_BITS];
-        private final int[][] starts = new int[MOST_BITS][MOST_BITS];
-
-        /** Counts beforehand the ties that start where a fresh set follows another one: the dearest loop asks it. */
-        Planner() {
-            for (int fresh = 0; fresh < MOST_BITS; fresh++) {
-                for (int ahead = 0; ahead < MOST_BITS; ahead++) {
-                    starts[fresh][ahead] = Integer.bitCount(fresh & ~ahead);
-                }
-            }
-        }
+        private final int[] fewestFrom = new int[MOST_PLACES + 1];
+        private final int[] keepFewest = new int[MOST_PLACES + 1];
+        private final int[] addOneAtMost = new int[MOST_PLACES + 1];
 
         /** Takes the colour that each place must come to; false: some place is to have two colours at once. */
         boolean aimAt(Cloth cloth, Picture picture) {
@@ -741,39 +735,49 @@ public final class TiedFrame {
 
         private int tiesOf(int bundle) {
             int end = span[bundle];
-            for (int fresh : FRESH_SETS) {
-                rest[end][fresh] = 0;
-            }
+            fewestFrom[end] = 0;
+            keepFewest[end] = ALL_SETS;
+            addOneAtMost[end] = ALL_SETS;
             for (int place = end - 1; place >= 0; place--) {
-                boolean alike = place + 1 < end && aim[bundle][place] == aim[bundle][place + 1];
-                if (alike) {
-                    // Neighbours of one colour never gain by differing, so the place adds nothing.
-                    System.arraycopy(rest[place + 1], 0, rest[place], 0, MOST_BITS);
-                } else {
-                    weigh(place, freshWays[aim[bundle][place]]);
-                }
+                weigh(place, freshWays[aim[bundle][place]]);
             }
-            return rest[0][0];
+            return tiesFrom(0, 0);
         }
 
+        /** Finds what a place and those behind it cost, from what those behind it do. */
         private void weigh(int place, int allowed) {
-            int[] here = rest[place];
-            int[] next = rest[place + 1];
-            for (int ahead : FRESH_SETS) {
-                here[ahead] = FAR;
+            int ties = fewestFrom[place + 1];
+            int cheapest = allowed & keepFewest[place + 1];
+            int oneDearer = allowed & addOneAtMost[place + 1];
+            for (int more = 1; more <= 2 && cheapest == 0; more++) {
+                ties++;
+                cheapest = oneDearer;
+                oneDearer = allowed;
             }
-            for (int fresh : FRESH_SETS) {
-                if ((allowed >> fresh & 1) != 0) {
-                    int[] starting = starts[fresh];
-                    int later = next[fresh];
-                    for (int ahead : FRESH_SETS) {
-                        int ties = starting[ahead] + later;
-                        if (ties < here[ahead]) {
-                            here[ahead] = ties;
-                        }
-                    }
-                }
+            fewestFrom[place] = ties;
+            keepFewest[place] = withSupersets(cheapest);
+            addOneAtMost[place] = withSupersets(oneDearer | lessOneBath(cheapest));
+        }
+
+        /** The ties of a place and those behind it, if the place ahead has these fresh baths. */
+        private int tiesFrom(int place, int ahead) {
+            if ((keepFewest[place] >> ahead & 1) != 0) {
+                return fewestFrom[place];
             }
+            return fewestFrom[place] + ((addOneAtMost[place] >> ahead & 1) != 0 ? 1 : 2);
+        }
+
+        /** Of sets of baths (a bit for each set) also all that hold one of them: ahead of it they save as much. */
+        private static int withSupersets(int sets) {
+            int all = sets | (sets & 0x5555) << 1;
+            all |= (all & 0x3333) << 2;
+            all |= (all & 0x0f0f) << 4;
+            return all | (all & 0x00ff) << 8;
+        }
+
+        /** The sets that come of those told if one bath is left out: ahead of them they cost one tie. */
+        private static int lessOneBath(int sets) {
+            return (sets & 0xaaaa) >> 1 | (sets & 0xcccc) >> 2 | (sets & 0xf0f0) >> 4 | (sets & 0xff00) >> 8;
         }
 
         /** Writes THE PLAN for the row that was tried last, which must be one that makes the picture. */
@@ -804,7 +808,7 @@ public final class TiedFrame {
         private boolean keepsFewest(int place, int ahead, int allowed, int bits) {
             int fresh = freshOf(bits);
             return (allowed >> bits & 1) != 0
-                && starts[fresh][ahead] + rest[place + 1][fresh] == rest[place][ahead];
+                && Integer.bitCount(fresh & ~ahead) + tiesFrom(place + 1, fresh) == tiesFrom(place, ahead);
         }
     }
 
